@@ -1212,11 +1212,8 @@ public final class GluedWords {
         }
 
         private boolean isPower(Store graph, Walk core, int part) {
-            if (part < 1 || graph.toVertex(core.stepAt(part - 1)) != core.begin()) {
-                return false;
-            }
             repeatFirst(core, part);
-            if (!trial.sameSteps(core)) {
+            if (part < 1 || !trial.sameSteps(core)) {
                 return false;
             }
             int n = graph.orderAt(core.begin());

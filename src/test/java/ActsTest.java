@@ -68,6 +68,17 @@ public final class ActsTest {
         check.due(13, "form() of a form", x, x.form(5), 4, 0);
         check.due(13, "acts", x.many(3), 8);
         check.due(13, "it is as its form", x.word(5, 3), 1);
+        GluedWords y = Check.made("vertex 1;vertex 12;vertex 18;edge 0 1 0 1;edge 0 1 1 12;edge 1 6 2 9;edge 1 2 2 3;edge 2 2 2 2;"
+                + "word 1 11 > 3 5 < 3 7;word 2 17 < 2 11 > 3 1;word 2 5 > 4 3 > 4 1 < 4 4;");
+        y.form(0);
+        // 11 leaves 1 and carries 15; 15 and 5 are 2; 2 leaves 2 and carries nothing
+        word(13, y, 0, "word 1 1 > 3 2 < 3 7;");
+        y.form(1);
+        // 17 leaves 8 and carries 6; 6 and 11 are 5; 5 leaves 1 and carries 6
+        word(13, y, 1, "word 2 8 < 2 1 > 3 7;");
+        y.form(2);
+        // 5 leaves 1 and carries 4; 7 leaves 1 and carries 6; 7 leaves 1 and carries 6
+        word(13, y, 2, "word 2 1 > 4 1 > 4 1 < 4 10;");
         check.none(13, "form(6)", x, x.form(6), 2);
         check.none(13, "form(-1)", x, x.form(-1), 2);
     }

@@ -140,6 +140,19 @@ public final class StateTest {
     private static void faults() {
         fault("Vertex 4;", 1, 0, 0);
         fault("vertex\t4;", 1, 6, 0);
+        fault("`", 1, 0, 0);
+        fault("{", 1, 0, 0);
+        fault("vertex 4/", 1, 8, 0);
+        fault("vertex 4:", 1, 8, 0);
+        fault("vertex 4=", 1, 8, 0);
+        fault("vertex 4?", 1, 8, 0);
+        fault("a", 2, 0, 0);
+        fault("zz;", 2, 0, 0);
+        fault("wertex 4;", 2, 0, 0);
+        fault("vertey 4;", 2, 0, 0);
+        fault("vertex 4;idge 0 1 0 1;", 2, 9, 1);
+        fault("vertex 4;cord 0;", 2, 9, 1);
+        fault("vertex 4;words 0;", 2, 9, 1);
         fault("vertex\r4;", 1, 6, 0);
         fault("vertex 4;\u00e9", 1, 9, 1);
         fault("vertex 4;\u00ff", 1, 9, 1);
@@ -241,6 +254,9 @@ public final class StateTest {
         GluedWords y = Check.made("vertex 1;".repeat(6) + "edge 5 1 4 1;edge 3 1 4 1;edge 3 1 2 1;edge 2 1 1 1;edge 1 1 0 1;edge 0 1 5 1;");
         check.due(6, "circles of a round", y.many(5), 1);
         check.due(6, "parts of a round", y.many(6), 1);
+        GluedWords row = Check.made("vertex 1;".repeat(6) + "edge 4 1 5 1;edge 3 1 4 1;edge 2 1 3 1;edge 1 1 2 1;edge 0 1 1 1;");
+        check.due(6, "circles of a row", row.many(5), 0);
+        check.due(6, "parts of a row", row.many(6), 1);
         GluedWords z = Check.made("vertex 1;".repeat(6) + "edge 5 1 0 1;edge 4 1 1 1;edge 1 1 4 1;edge 4 1 4 1;");
         check.due(6, "circles", z.many(5), 2);
         check.due(6, "parts", z.many(6), 4);

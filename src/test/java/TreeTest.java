@@ -107,6 +107,9 @@ public final class TreeTest {
         GluedWords z = Check.made(BIG + "word 0;word 0 1;");
         check.due(41, "holds all", z, z.holds(0, 12), MOST, 0);
         check.due(41, "holds one", z, z.holds(1, 12), 1, 0);
+        GluedWords w = Check.made("vertex 4;edge 0 2 0 2;word 0 1 > 0 2;");
+        check.none(41, "holds of one step", w, w.holds(0, 1), 5);
+        check.due(42, "axis of one step", w, w.axis(0, 3), 0, 0);
     }
 
     private static void axis() {

@@ -27,6 +27,10 @@ public final class WordsTest {
         check.due(23, "alike(2, 2)", x, x.alike(2, 2), 1, 0);
         check.due(23, "alike(0, 5)", x, x.alike(0, 5), 0, 0);
         check.due(23, "alike(3, 4)", x, x.alike(3, 4), 0, 0);
+        GluedWords y = Check.made(S + "word 0 1 > 0 1 < 0;word 0 > 0 1 < 0;word 0 1;word 0 2;word 0 1 > 0 2 < 0;");
+        check.due(23, "another number first", y, y.alike(0, 1), 0, 0);
+        check.due(23, "another number alone", y, y.alike(2, 3), 0, 0);
+        check.due(23, "another number inside", y, y.alike(0, 4), 0, 0);
         check.none(23, "alike(0, 6)", x, x.alike(0, 6), 2);
         check.none(23, "alike(-1, 0)", x, x.alike(-1, 0), 2);
     }
@@ -52,6 +56,9 @@ public final class WordsTest {
             check.due(25, "length(" + w + ")", x, x.length(w), lengths[w], status);
             check.due(26, "orderOf(" + w + ")", x, x.orderOf(w), orders[w], status);
         }
+        GluedWords y = Check.made("vertex 4;edge 0 2 0 2;word 0 1 > 0 2;");
+        check.due(25, "length of one step", y, y.length(0), 1, 0);
+        check.due(26, "orderOf of one step", y, y.orderOf(0), 0, 0);
         check.none(25, "length(8)", x, x.length(8), 2);
         check.none(25, "length(-1)", x, x.length(-1), 2);
         check.none(26, "orderOf(8)", x, x.orderOf(8), 2);
@@ -98,6 +105,12 @@ public final class WordsTest {
         notKin(y, 0, 1);
         kinBy(y, 2, 3, 0, 2);
         notKin(y, 3, 4);
+        GluedWords z = Check.made("vertex 6;edge 0 6 0 6;word 0 1 > 0 2 > 0 3 > 0 4 > 0 5;word 0 4 > 0 0 > 0 2 > 0 3 > 0;"
+                + "word 0 2 > 0 0 > 0 2 > 0 3 > 0 2;word 0 3 > 0 4 > 0 0 > 0 2 > 0;");
+        kinBy(z, 0, 1, 3, 0);
+        kinBy(z, 0, 2, 3, 2);
+        kinBy(z, 0, 3, 2, 0);
+        kinBy(z, 1, 0, 1, 5);
     }
 
     private static void kinWithoutSteps() {
@@ -173,6 +186,11 @@ public final class WordsTest {
         check.due(32, "centre of 2 and 3", y, y.centre(0), 2, 0);
         check.due(31, "central(0, 4)", y, y.central(0, 4), 0, 0);
         check.due(31, "central(0, 6)", y, y.central(0, 6), 1, 0);
+        // the edge that counts is the farthest from 0 and stands first
+        GluedWords row = Check.made("vertex 4;".repeat(6) + "edge 5 2 4 2;edge 3 1 4 1;edge 2 1 3 1;edge 1 1 2 1;edge 0 1 1 1;");
+        for (int v = 0; v < 6; v++) {
+            check.due(32, "centre(" + v + ") of a row", row, row.centre(v), 2, 0);
+        }
         GluedWords z = Check.made("vertex 60;edge 0 1 0 1;vertex 60;edge 0 1 1 1;");
         check.due(32, "centre of all", z, z.centre(0), 60, 0);
     }
@@ -207,6 +225,12 @@ public final class WordsTest {
             check.due(34, "root of power " + -m, x, x.root(made), m, 0);
             x.drop(made);
         }
+        int square = x.power(4, 2);
+        check.due(34, "root of a square of four steps", x, x.root(square), 2, 0);
+        int cube = x.power(6, 3);
+        check.due(34, "root of a cube that is not as its core", x, x.root(cube), 3, 0);
+        x.drop(cube);
+        x.drop(square);
         check.none(34, "root(7)", x, x.root(7), 2);
         check.none(34, "root(-1)", x, x.root(-1), 2);
         GluedWords y = Check.made("vertex 4;edge 0 1 0 1;word 0 > 0 > 0 2;word 0 > 0 > 0 1;word 0" + " > 0".repeat(24) + ";"
