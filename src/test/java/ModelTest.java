@@ -1,6 +1,10 @@
+import java.lang.reflect.Method;
+import java.lang.reflect.Modifier;
 import java.nio.charset.StandardCharsets;
 import java.util.ArrayList;
+import java.util.HashMap;
 import java.util.List;
+import java.util.Map;
 import java.util.Random;
 
 /** Many runs of calls, by fixed seeds, on the class and on the model side by side. */
@@ -10,6 +14,9 @@ public final class ModelTest {
         "spell", "drop", "undo", "mark", "back", "alike", "steps", "length", "orderOf", "kin", "kinBy", "kins",
         "net", "central", "centre", "having", "root", "swaps", "alikes", "twin", "apart", "moves", "way", "holds",
         "axis", "ball", "sphere", "listed", "near", "meet", "tell", "out", "chi", "fault", "load", "text"};
+
+    private static final Map<String, Method> CLASS_CALLS = callsOf(GluedWords.class);
+    private static final Map<String, Method> MODEL_CALLS = callsOf(Model.class);
 
     private final Random random;
     private final GluedWords x = new GluedWords();
@@ -160,7 +167,8 @@ public final class ModelTest {
             loadText();
             return;
         }
-        same(call, answer(x, call, a, b, c), answer(y, call, a, b, c), a, b, c);
+        long got = answer(x, CLASS_CALLS.get(call), a, b, c);
+        same(call, got, answer(y, MODEL_CALLS.get(call), a, b, c), a, b, c);
     }
 
     private void same(String call, long got, long want, int a, int b, int c) {
@@ -175,110 +183,27 @@ public final class ModelTest {
         }
     }
 
-    private static long answer(GluedWords x, String call, int a, int b, int c) {
-        return switch (call) {
-            case "many" -> x.many(a);
-            case "order" -> x.order(a);
-            case "edge" -> x.edge(a, b);
-            case "word" -> x.word(a, b);
-            case "number" -> x.number(a, b);
-            case "step" -> x.step(a, b);
-            case "take" -> x.take(a, b);
-            case "form" -> x.form(a);
-            case "times" -> x.times(a, b);
-            case "turned" -> x.turned(a);
-            case "power" -> x.power(a, b);
-            case "core" -> x.core(a);
-            case "spell" -> x.spell(a, b, c);
-            case "drop" -> x.drop(a);
-            case "undo" -> x.undo();
-            case "mark" -> x.mark();
-            case "back" -> x.back();
-            case "alike" -> x.alike(a, b);
-            case "steps" -> x.steps(a);
-            case "length" -> x.length(a);
-            case "orderOf" -> x.orderOf(a);
-            case "kin" -> x.kin(a, b);
-            case "kinBy" -> x.kinBy(a, b, c);
-            case "kins" -> x.kins(a);
-            case "net" -> x.net(a, b);
-            case "central" -> x.central(a, b);
-            case "centre" -> x.centre(a);
-            case "having" -> x.having(a, b);
-            case "root" -> x.root(a);
-            case "swaps" -> x.swaps(a, b);
-            case "alikes" -> x.alikes(a);
-            case "twin" -> x.twin(a);
-            case "apart" -> x.apart(a, b);
-            case "moves" -> x.moves(a, b);
-            case "way" -> x.way(a, b, c);
-            case "holds" -> x.holds(a, b);
-            case "axis" -> x.axis(a, b);
-            case "ball" -> x.ball(a, b);
-            case "sphere" -> x.sphere(a, b);
-            case "listed" -> x.listed(a);
-            case "near" -> x.near(a, b);
-            case "meet" -> x.meet(a);
-            case "tell" -> x.tell(a);
-            case "out" -> x.out(a);
-            case "chi" -> x.chi(a);
-            case "fault" -> x.fault(a);
-            case "load" -> x.load(a);
-            default -> throw new IllegalArgumentException(call);
-        };
+    /** The public calls of a class by their names. */
+    private static Map<String, Method> callsOf(Class<?> c) {
+        Map<String, Method> all = new HashMap<>();
+        for (Method m : c.getDeclaredMethods()) {
+            if (Modifier.isPublic(m.getModifiers())) {
+                all.put(m.getName(), m);
+            }
+        }
+        return all;
     }
 
-    private static long answer(Model x, String call, int a, int b, int c) {
-        return switch (call) {
-            case "many" -> x.many(a);
-            case "order" -> x.order(a);
-            case "edge" -> x.edge(a, b);
-            case "word" -> x.word(a, b);
-            case "number" -> x.number(a, b);
-            case "step" -> x.step(a, b);
-            case "take" -> x.take(a, b);
-            case "form" -> x.form(a);
-            case "times" -> x.times(a, b);
-            case "turned" -> x.turned(a);
-            case "power" -> x.power(a, b);
-            case "core" -> x.core(a);
-            case "spell" -> x.spell(a, b, c);
-            case "drop" -> x.drop(a);
-            case "undo" -> x.undo();
-            case "mark" -> x.mark();
-            case "back" -> x.back();
-            case "alike" -> x.alike(a, b);
-            case "steps" -> x.steps(a);
-            case "length" -> x.length(a);
-            case "orderOf" -> x.orderOf(a);
-            case "kin" -> x.kin(a, b);
-            case "kinBy" -> x.kinBy(a, b, c);
-            case "kins" -> x.kins(a);
-            case "net" -> x.net(a, b);
-            case "central" -> x.central(a, b);
-            case "centre" -> x.centre(a);
-            case "having" -> x.having(a, b);
-            case "root" -> x.root(a);
-            case "swaps" -> x.swaps(a, b);
-            case "alikes" -> x.alikes(a);
-            case "twin" -> x.twin(a);
-            case "apart" -> x.apart(a, b);
-            case "moves" -> x.moves(a, b);
-            case "way" -> x.way(a, b, c);
-            case "holds" -> x.holds(a, b);
-            case "axis" -> x.axis(a, b);
-            case "ball" -> x.ball(a, b);
-            case "sphere" -> x.sphere(a, b);
-            case "listed" -> x.listed(a);
-            case "near" -> x.near(a, b);
-            case "meet" -> x.meet(a);
-            case "tell" -> x.tell(a);
-            case "out" -> x.out(a);
-            case "chi" -> x.chi(a);
-            case "fault" -> x.fault(a);
-            case "load" -> x.load(a);
-            default -> throw new IllegalArgumentException(call);
-        };
+    private static long answer(Object x, Method call, int... given) {
+        Object[] taken = new Object[call.getParameterCount()];
+        for (int i = 0; i < taken.length; i++) {
+            taken[i] = given[i];
+        }
+        try {
+            return ((Number) call.invoke(x, taken)).longValue();
+        } catch (ReflectiveOperationException e) {
+            throw new IllegalStateException(call + " failed", e);
+        }
     }
 
     // ---- texts
