@@ -75,6 +75,27 @@ final class ActBounds {
         z.take(0, 9);
         s.good("undo() of an ACT that came behind undo()", z, z.undo(), 0);
         s.due("words behind it", z.many(2), 1);
+        GluedWords w = Check.made("vertex 60;word 0;");
+        takeAndDrop(w, 0, 29);
+        undoAll(w, 29);
+    }
+
+    /** Two ACTS each time: word 0 is the number that was taken last. */
+    private static void takeAndDrop(GluedWords x, int from, int to) {
+        for (int i = from; i <= to; i++) {
+            x.take(0, i);
+            x.drop(0);
+        }
+    }
+
+    /** The latest 8, behind takeAndDrop() to a number. */
+    private void undoAll(GluedWords x, int last) {
+        for (int i = 0; i < 8; i++) {
+            s.good("undo() number " + (i + 1), x, x.undo(), 7 - i);
+            s.due("words behind it", x.many(2), 2 - i % 2);
+            s.due("the first of them", x.number(0, 0), last - 1 - i / 2);
+        }
+        s.none("undo() number 9", x, x.undo(), 5);
     }
 
     private void marks() {
@@ -105,6 +126,19 @@ final class ActBounds {
         s.due("WORDS", y.many(2), 1);
         s.due("acts as at the MARK", y.many(3), 1);
         s.none("back() without one", y, y.back(), 5);
+        GluedWords z = Check.made("vertex 60;word 0;");
+        takeAndDrop(z, 0, 10);
+        z.mark();
+        takeAndDrop(z, 11, 12);
+        z.mark();
+        takeAndDrop(z, 13, 20);
+        s.good("back() to the second", z, z.back(), 1);
+        s.line(z, 0, "word 0 12;");
+        s.due("acts as at the second", z.many(3), 8);
+        z.undo();
+        s.good("back() to the first", z, z.back(), 0);
+        s.line(z, 0, "word 0 10;");
+        undoAll(z, 10);
     }
 
     private void take() {
@@ -358,6 +392,15 @@ final class ActBounds {
         s.good("undo() of the first", x, x.undo(), 0);
         s.due("VERTICES", x.many(0), 0);
         s.due("WORDS", x.many(2), 0);
+        GluedWords y = Check.made(TWO);
+        y.mark();
+        y.take(0, 1);
+        y.undo();
+        s.due("MARKS stay behind undo()", y.many(4), 1);
+        Check.load(y, "vertex 7;");
+        s.due("MARKS stay behind load()", y.many(4), 1);
+        y.undo();
+        s.due("MARKS stay behind its undo()", y.many(4), 1);
 
         s.says("(5).");
         s.refused(Makers::bare, "undo()", GluedWords::undo, 5);

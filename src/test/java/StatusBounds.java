@@ -55,6 +55,12 @@ final class StatusBounds {
         s.none("edge(-1, 0)", x, x.edge(-1, 0), 2);
         s.none("steps(6)", x, x.steps(6), 2);
         s.none("steps(-1)", x, x.steps(-1), 2);
+        GluedWords nothing = new GluedWords();
+        for (ToLongFunction<GluedWords> call : ofTheFirst()) {
+            nothing.many(0);
+            s.due("a call, where there is nothing", call.applyAsLong(nothing), -1);
+            s.due("its STATUS", nothing.status(), 2);
+        }
 
         s.says("3 one too many.");
         GluedWords full = Makers.full();
@@ -92,6 +98,20 @@ final class StatusBounds {
             call.applyAsLong(y);
             s.due("STATUS of a call that is answered, behind one that is not", y.status(), 0);
         }
+    }
+
+    /** Each call of a VERTEX, an EDGE, a WORD: of the first ones. */
+    private static List<ToLongFunction<GluedWords>> ofTheFirst() {
+        List<ToLongFunction<GluedWords>> all = new ArrayList<>(List.of(
+                x -> x.order(0), x -> x.edge(0, 0), x -> x.word(0, 0), x -> x.number(0, 0), x -> x.step(0, 0), x -> x.take(0, 0),
+                x -> x.form(0), x -> x.times(0, 0), x -> x.turned(0), x -> x.power(0, 0), x -> x.core(0), x -> x.spell(0, 0, 0),
+                x -> x.drop(0), x -> x.alike(0, 0), x -> x.steps(0), x -> x.length(0), x -> x.orderOf(0), x -> x.kin(0, 0),
+                x -> x.kinBy(0, 0, 0), x -> x.kins(0), x -> x.net(0, 0)));
+        all.addAll(List.of(
+                x -> x.central(0, 0), x -> x.centre(0), x -> x.having(0, 1), x -> x.root(0), x -> x.swaps(0, 0), x -> x.alikes(0),
+                x -> x.twin(0), x -> x.apart(0, 0), x -> x.moves(0, 0), x -> x.way(0, 0, 0), x -> x.holds(0, 0), x -> x.axis(0, 0),
+                x -> x.ball(0, 0), x -> x.sphere(0, 0), x -> x.listed(0), x -> x.near(0, 0), x -> x.meet(0), x -> x.tell(0)));
+        return all;
     }
 
     /** Each call that has a STATUS, with 0, on an object that is busy. */

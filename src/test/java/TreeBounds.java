@@ -18,6 +18,7 @@ final class TreeBounds {
         tree();
         held();
         counts();
+        alone();
         mostTold();
         listing();
         chiAndCircles();
@@ -97,6 +98,33 @@ final class TreeBounds {
         }
         s.good("a VERTEX without EDGES", x, x.sphere(2, 0), 9);
         s.good("a VERTEX without EDGES, a STEP", x, x.sphere(2, 1), 0);
+    }
+
+    /** A VERTEX without EDGES: its TREE is one PLACE, all its LOOPS have LENGTH 0. */
+    private void alone() {
+        s.says("SPHERE of FORMS: LOOPS at u, no two ALIKE, whose FORM has k STEPS.");
+        GluedWords x = Check.made("vertex 7;word 0 3;word 0 3;word 0 4;");
+        s.good("ball(0, 12)", x, x.ball(0, 12), 1);
+        s.good("holds(0, 12)", x, x.holds(0, 12), 1);
+        s.good("sphere(0, 0)", x, x.sphere(0, 0), 7);
+        s.good("sphere(0, 12)", x, x.sphere(0, 12), 0);
+        s.good("listed(2)", x, x.listed(2), 4);
+        s.good("meet(0)", x, x.meet(0), 0);
+        s.good("centre(0)", x, x.centre(0), 7);
+        s.good("near(0, 0)", x, x.near(0, 0), 0b111);
+        s.good("apart(0, 2)", x, x.apart(0, 2), 0);
+        s.good("moves(0, 2)", x, x.moves(0, 2), 0);
+        s.good("way(0, 2, 0)", x, x.way(0, 2, 0), 0);
+        s.good("length(0)", x, x.length(0), 0);
+        s.good("orderOf(0)", x, x.orderOf(0), 7);
+        s.good("swaps(0, 2)", x, x.swaps(0, 2), 1);
+        s.good("kins(0)", x, x.kins(0), 0b011);
+        s.good("kinBy(0, 1, 0)", x, x.kinBy(0, 1, 0), 0);
+        s.none("kinBy(0, 2, 0)", x, x.kinBy(0, 2, 0), 5);
+        s.none("root(0)", x, x.root(0), 5);
+        s.none("axis(0, 0)", x, x.axis(0, 0), 5);
+        s.none("spell(0, 1, 0)", x, x.spell(0, 1, 0), 5);
+        s.good("spell(0, 0, 6)", x, x.spell(0, 0, 6), 3);
     }
 
     private void mostTold() {
