@@ -25,10 +25,12 @@ public final class FaceTest {
             long ball(int,int); long sphere(int,int); long listed(int); int near(int,int); int meet(int);
             int tell(int); int out(int); int chi(int);""";
     private static final Path SOURCE = Path.of("src/main/java/GluedWords.java");
+    private static final Path DOCUMENT = Path.of("../shared/DOC.md");
     private static final List<String> wrong = new ArrayList<>();
 
     public static void main(String[] args) throws Exception {
         face();
+        documentsFace();
         members(GluedWords.class);
         for (Class<?> inner : GluedWords.class.getDeclaredClasses()) {
             members(inner);
@@ -72,8 +74,28 @@ public final class FaceTest {
         Constructor<?>[] made = GluedWords.class.getDeclaredConstructors();
         check(made.length == 1 && Modifier.isPublic(made[0].getModifiers()) && made[0].getParameterCount() == 0, "constructor");
         for (Field f : GluedWords.class.getDeclaredFields()) {
-            check(Modifier.isPrivate(f.getModifiers()) || f.getName().equals("NONE"), "a field that is not private: " + f);
+            check(Modifier.isPrivate(f.getModifiers()) || f.toString().equals("public static final int GluedWords.NONE"),
+                    "a field that is not private: " + f);
         }
+        check(GluedWords.NONE == -1, "NONE is " + GluedWords.NONE);
+    }
+
+    /** The document's own list of members, word for word: each is there, and no other is to be seen from outside. */
+    private static void documentsFace() throws Exception {
+        if (!Files.exists(DOCUMENT)) {
+            System.out.println(DOCUMENT + " is not here: the face is compared with the one in this test alone");
+            return;
+        }
+        String document = Files.readString(DOCUMENT);
+        int begin = document.indexOf("public final class GluedWords {");
+        Set<String> want = new TreeSet<>(document.substring(begin, document.indexOf("```", begin)).lines().map(String::strip).toList());
+        Set<String> got = new TreeSet<>(Set.of("public final class GluedWords {", "}"));
+        Matcher members = Pattern.compile("(?m)^ {4}(?!private )([^\\s/*}].*?)(;| \\{)$").matcher(Files.readString(SOURCE));
+        while (members.find()) {
+            got.add(members.group(1) + ";");
+        }
+        check(want.size() == 53, "members in the document: " + want);
+        check(got.equals(want), "the document's members are " + want + ", the class has " + got);
     }
 
     private static void members(Class<?> c) {
